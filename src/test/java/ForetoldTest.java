@@ -19,6 +19,7 @@ public final class ForetoldTest {
         fitsAreRefused();
         axles();
         drawn();
+        farthest();
         noRoad();
         nothingChanges();
         CHECK.end("ForetoldTest");
@@ -261,6 +262,22 @@ public final class ForetoldTest {
         PulpitRoads five = Check.on(FIVE);
         CHECK.due("20 hours by 7", five.drawn(20, 7, 0), 30);
         CHECK.due("gates", five.drawn(20, 7, 1), 3);
+    }
+
+    /** Roads that were searched for by going hour by hour, so that what is asked comes in the last hour, or one later. */
+    private static void farthest() {
+        CHECK.due("whole in 60", Check.on("p16,0;r0;r0;r2;r0;r1;r1;r2;r0;e5,3;d0,1;").whole(0), 60);
+        PulpitRoads late = Check.on("p14,7;r0;r1;r0;r2;r1;r2;r2;r2;r2;k0,7;d2,5;d5,7;y3,6;d0,2;");
+        CHECK.due("whole in 61", late.whole(0), Check.NONE);
+        late.hours(1);
+        CHECK.due("an hour on", late.whole(0), 60);
+        CHECK.due("meet in 60", Check.on("p16,1;r0;r0;r0;r1;r1;r0;y2,3;y1,5;e0,12;").meet(0, 1), 60);
+        PulpitRoads apart = Check.on("p16,11;r1;r0;r0;r1;r1;r1;r1;r0;r2;e4,8;y3,0;e2,7;");
+        CHECK.due("meet in 61", apart.meet(0, 1), Check.NONE);
+        apart.hours(1);
+        CHECK.due("an hour on", apart.meet(0, 1), 60);
+        CHECK.due("round in 200", Check.on("p16,1;r1;r1;r2;r1;r0;d1,12;e4,3;y2,4;").round(), 200);
+        CHECK.due("round in 201", Check.on("p15,8;r2;r0;r2;r2;r2;y2,9;b2,14;").round(), Check.NONE);
     }
 
     private static void noRoad() {
