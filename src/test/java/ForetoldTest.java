@@ -164,6 +164,8 @@ public final class ForetoldTest {
         CHECK.due("goes ahead of hour 1", x.walk(0, 2, 1), 2);
         CHECK.due("goes ahead of hour 0", x.walk(2, 1, 0), 3);
         CHECK.due("as bits", x.walk(2, 1, 1), 1);
+        // he hears all by going with it at once (bits 3, 7), too, but also by staying until it comes
+        CHECK.due("of several ways the least", x.walk(2, 3, 1), 0);
         CHECK.due("one word", x.walk(1, 2, 0), 1);
         CHECK.due("by staying", x.walk(1, 2, 1), 0);
         x.hours(3);

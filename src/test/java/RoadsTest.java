@@ -132,6 +132,11 @@ public final class RoadsTest {
         CHECK.due("no acts", x.count(6), 0);
         CHECK.due("nothing heard", x.count(9), 0);
         CHECK.due("nothing to undo", x.undo(), Check.STATE);
+        x.ahead(0, 9, 0);
+        CHECK.due("a road behind foretelling", Check.read(x, "p4,0;r0;r1;r2;"), 0);
+        CHECK.due("hour 0 of it", x.count(3), 0);
+        CHECK.due("nothing heard on it", x.count(9), 0);
+        CHECK.due("no pulpits on it", x.count(2), 0);
     }
 
     /** STRETCH and WORD behind each of four hours, of a pulpit alone. */
@@ -331,6 +336,7 @@ public final class RoadsTest {
         CHECK.due("image -1", x.image(-1), Check.BAD);
         Check.read(x, FIVE);
         CHECK.due("image(1)", x.image(1), 1);
+        x.hours(3);
         CHECK.due("restore(0)", x.restore(0), 1);
         CHECK.due("hour", x.count(3), 2);
         CHECK.due("words", x.count(4), 4);
