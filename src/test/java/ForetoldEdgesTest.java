@@ -222,6 +222,14 @@ public final class ForetoldEdgesTest {
             round() = 15
             read p4,0;r2;r2;r2;b0,0; = 1
             round() = 3
+            # all five: ponies that stay; a door that comes to one of these, and waits for ever; doors that go round
+            read p4,0;r2;r2;r2;r2;r2;r2;r2;r2;r2;y0,0;y1,0;y2,0;y3,0;y4,0; = 5
+            round() = 1
+            read p4,0;r2;r2;r2;r2;r2;r2;r2;r2;r2;y0,0;y1,0;y2,0;y3,0;d5,0; = 5
+            put(0, 8) = 0
+            round() = NONE
+            read p4,0;r0;r0;r0;r0;r0;r0;r0;r0;r0;d0,0;d2,0;d4,0;d6,0;d8,0; = 5
+            round() = 9
             # found by going on: the last HOUR, and one more
             read p16,1;r1;r1;r2;r1;r0;d1,12;e4,3;y2,4; = 3
             round() = 200
@@ -534,6 +542,15 @@ public final class ForetoldEdgesTest {
             axles(0, 0, 0|5|10, 1) = 1
             axles(0, 4, 0|5|10, 0) = 1 1 0
             axles(0, 4, 0|5|10, 1) = 1 2 1
+            # the last WORD that it HEARD, and the one behind it, that nobody says
+            axles(0, 2|3, 10, 0) = 1 0
+            # the last of five PULPITS; and where none of them is
+            read p4,0;r0;r0;r0;r0;d0,0;d1,0;d2,0;d2,0;b3,3; = 5
+            axles(3, 0..3, 5, 0) = 1 1 0 1
+            axles(0..2, 0..3, 5, 0) = 0
+            # those of the ROAD before are there no more
+            read p4,0;r0;r0;r0;r0;d0,0; = 1
+            axles(3, 0..3, 5, 0) = 0
             """);
         EDGES.edge("Promise 27", "AXLES (c 0 to 10): above (what = 0), below (1). BAD.", """
             axles(0, 0, 0, 0) = BAD

@@ -44,6 +44,11 @@ public final class LanguageTest {
             names.add(m.getName());
         }
         isTrue("the face is whole, but " + want, want.isEmpty());
+        for (Class<?> inside : PulpitRoads.class.getDeclaredClasses()) {
+            for (Method m : inside.getDeclaredMethods()) {
+                privates.add(m.getName());
+            }
+        }
         privates.retainAll(names);
         isTrue("private methods bear no public names, but " + privates, privates.isEmpty());
         isTrue("the class is public and final", PulpitRoads.class.getModifiers() == (Modifier.PUBLIC | Modifier.FINAL));

@@ -291,6 +291,48 @@ public final class RoadsEdgesTest {
             undo() = STATE
             """);
         EDGES.edge("Promise 13", "The latest ACT is undone", """
+            # all five PULPITS are where they were, at their WORDS, and all GATES HEARD what they did
+            read FIVE = 5
+            hours(1) = 0
+            pulpit(0..4, 0) = 1 1 3 2 0
+            pulpit(0..4, 1) = 3 7 7 7 2
+            stretch(0..3, 1) = 7 0 120 112
+            hours(1) = 0
+            pulpit(0..4, 0) = 2 1 0 3 1
+            pulpit(0..4, 1) = 4 7 2 7 7
+            stretch(0..3, 1) = 7 8 120 243
+            put(4, 3) = 1
+            skip(4, 0) = 7
+            forget(3) = 6
+            undo() = 4
+            stretch(0..3, 1) = 7 8 120 243
+            undo() = 3
+            pulpit(0..4, 1) = 4 7 2 7 7
+            undo() = 2
+            pulpit(0..4, 0) = 2 1 0 3 1
+            undo() = 1
+            pulpit(0..4, 0) = 1 1 3 2 0
+            pulpit(0..4, 1) = 3 7 7 7 2
+            stretch(0..3, 1) = 7 0 120 112
+            undo() = 0
+            pulpit(0..4, 0) = 0 2 3 1 0
+            pulpit(0..4, 1) = 0 3 4 7 2
+            stretch(0..3, 1) = 0
+            """);
+        EDGES.edge("Promise 13", "The latest ACT is undone", """
+            # all nine GATES
+            read p4,0;r2;r2;r2;r2;r2;r2;r2;r2;r2;b0,0; = 1
+            hours(9) = 511
+            undo() = 8
+            stretch(0..8, 1) = 15 15 15 15 15 15 15 15 0
+            forget(7) = 4
+            forget(0) = 4
+            undo() = 9
+            undo() = 8
+            stretch(0..8, 1) = 15 15 15 15 15 15 15 15 0
+            hours(1) = 511
+            """);
+        EDGES.edge("Promise 13", "The latest ACT is undone", """
             # what is no ACT stays: rows, tape, images, trace, status
             read ROUND = 1
             hours(1) = 0
