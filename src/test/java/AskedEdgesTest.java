@@ -28,13 +28,14 @@ public final class AskedEdgesTest {
 
     private static void as() {
         EDGES.edge("Terms, part 3", "KINDS of PULPITS: 0 PULPIT; 1 BOX, a PULPIT; 2 BACK, a BOX; 3 PONY, a BOX;"
-            + " 4 DOOR, a PULPIT; 5 ECHO, a DOOR.", """
+            + " 4 DOOR, a PULPIT; 5 ECHO, a DOOR. By this it is asked.", """
             read FIVE = 5
             as(0, 0..5) = 0 0 KIND KIND KIND KIND
             as(1, 0..5) = 1 1 1 KIND KIND KIND
             as(2, 0..5) = 2 2 KIND 2 KIND KIND
             as(3, 0..5) = 3 KIND KIND KIND 3 KIND
             as(4, 0..5) = 4 KIND KIND KIND 4 4
+            ask(0..4, 1) = 0 6 -995 96 200
             """);
         EDGES.edge("Promise 32", "A PULPIT is taken as one of a KIND (0 .. 5): its number. BAD; KIND: it is no such one.", """
             as(0, 0) = BAD
@@ -126,7 +127,7 @@ public final class AskedEdgesTest {
     }
 
     private static void trace() {
-        EDGES.edge("Terms, part 4", "each of which leaves its number in THE TRACE as it begins (the first 16)", """
+        EDGES.edge("Terms, part 4", "ASKS of PULPITS, by BODIES, each of which leaves its number in THE TRACE as it begins (the first 16)", """
             # no ask leaves more than six: there is never a seventeenth
             read FIVE = 5
             ask(1, 0) = -9

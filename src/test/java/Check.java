@@ -15,6 +15,15 @@ final class Check {
         }
     }
 
+    /** As above; the words for a wrong answer are made only where it is one. */
+    void due(Object call, String where, int got, int want) {
+        if (got == want) {
+            checked++;
+        } else {
+            due(call + where, got, want);
+        }
+    }
+
     void due(String call, int[] got, int... want) {
         for (int i = 0; i < want.length; i++) {
             due(call + " [" + i + "]", i < got.length ? got[i] : NONE, want[i]);

@@ -133,7 +133,7 @@ final class EdgeLine {
         return numbers;
     }
 
-    private static int number(String text) {
+    static int number(String text) {
         if (text.startsWith("FAULT")) {
             return -1000100 - Integer.parseInt(text.substring(5));
         }

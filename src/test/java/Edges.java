@@ -14,15 +14,42 @@ final class Edges {
     private static final Set<String> ROW_CALLS = Set.of("row", "set", "copy", "drop");
     private static final Set<String> ACT_CALLS = Set.of("hours", "put", "skip", "forget", "undo", "restore");
 
+    /** A sentence that an edge quotes, and the part of the document that it stands in. */
+    record Quote(String where, String sentence) {
+        String part() {
+            return where.replaceAll(",.*", "");
+        }
+
+        /** Words that are left out of a quote are told as [..] in it. */
+        List<String> pieces() {
+            return List.of(sentence.split(" \\[\\.\\.\\] ?"));
+        }
+    }
+
+    private static List<Quote> noted;
+
     private final Check check = new Check();
     private int many;
 
+    /** From now on edges are not run, but their quotes are noted. */
+    static List<Quote> noteOnly() {
+        noted = new ArrayList<>();
+        return noted;
+    }
+
     void edge(String where, String sentence, String lines) {
+        if (noted != null) {
+            noted.add(new Quote(where, sentence));
+            return;
+        }
         many++;
         new Run(where + ": \"" + sentence + "\"").go(EdgeLine.steps(lines));
     }
 
     void end(String name) {
+        if (noted != null) {
+            return;
+        }
         check.end(name + ", " + many + " edges");
     }
 

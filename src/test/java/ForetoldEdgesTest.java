@@ -41,13 +41,15 @@ public final class ForetoldEdgesTest {
             ahead(0..4, 0, !0..1) = BAD
             ahead(4, 60, 1) = 6
             """);
-        EDGES.edge("Terms, part 3", "FORETOLD (nothing changes) d HOURS on (0 to 60)", """
+        EDGES.edge("Terms, part 3", "FORETOLD (nothing changes) d HOURS on (0 to 60): STRETCH, WORD of a PULPIT;"
+            + " what a GATE HEARD (bits).", """
             read FIVE = 5
             # an ACT that leaves all as it was
             skip(0, 0) = 0
             image(0) = 1
             row(0, 0, 12) = 12
             ask(0, 1) = 0
+            ahead(0..4, 5, 0) = 1 2 2 0 1
             ahead(0..4, 60, 1) = 5 5 1 7 6
             heard(0..3, 6) = 63 232 251 255
             whole(0..3) = 9 15 7 5
@@ -490,6 +492,12 @@ public final class ForetoldEdgesTest {
             fits(0, 0, 0, 1, 2..3) = 65535
             set(0, 0, 0) = 0
             fits(0, 0, 0, 1, 2..3) = 0
+            # a box that has to wait while a pony of a lesser number stays tells the HARD one of that pony
+            read p4,1;r0;r0;r0;y0,2;b0,0; = 2
+            row(0, 0, 2) = 2
+            fits(1, 0, 0, 2, 2..3) = 13 0
+            set(0, 1, 1) = 1
+            fits(1, 0, 0, 2, 2..3) = 2 15
             """);
     }
 
@@ -522,7 +530,7 @@ public final class ForetoldEdgesTest {
     }
 
     private static void axles() {
-        EDGES.edge("Terms, part 3", "each PULPIT does not PASS in the next HOUR by c of 10, each by itself"
+        EDGES.edge("Terms, part 3", "AXLES: each PULPIT does not PASS in the next HOUR by c of 10, each by itself"
             + " (COUNCILS are as they are): that a GATE HEARD a WORD behind it: a fraction", """
             # 1 is in COUNCIL, whether 0 PASSES or not; a door says nothing
             read p8,0;r0;r0;r0;b0,0;b0,4;d1,0;e2,0; = 4
@@ -569,7 +577,8 @@ public final class ForetoldEdgesTest {
 
     /** A box is on the stretch that lets it say one word; 3 or 4 are said where it is put. */
     private static void drawn() {
-        EDGES.edge("Terms, part 3", "ahead of each X becomes the rest of (X times 16807) by 2147483647", """
+        EDGES.edge("Terms, part 3", "AGES of n HOURS (0 to 60) by a SEED (X at first): ahead of each X becomes"
+            + " the rest of (X times 16807) by 2147483647", """
             read p4,0;r0;r1;r2;b1,0; = 1
             # 16807: by 3 it leaves 1, so it is left; 3 times that by 3 leaves 0
             drawn(1, 1, 0..1) = 1 0
@@ -593,7 +602,7 @@ public final class ForetoldEdgesTest {
             drawn(1, 3, 0..1) = 0
             drawn(60, 999999, 0..1) = 0
             """);
-        EDGES.edge("Terms, part 3", "AGES of n HOURS (0 to 60) by a SEED [..] how many WORDS all GATES HEARD, together;"
+        EDGES.edge("Terms, part 3", "AGES of n HOURS (0 to 60) by a SEED [..] then the HOUR: how many WORDS all GATES HEARD, together;"
             + " how many GATES HEARD all", """
             read p4,0;r2;r2;r2;r2;r2;r2;r2;r2;r2;b0,0; = 1
             drawn(0, 1, 0..1) = 0

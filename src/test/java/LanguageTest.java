@@ -4,7 +4,11 @@ import java.lang.reflect.Method;
 import java.lang.reflect.Modifier;
 import java.nio.file.Files;
 import java.nio.file.Path;
+import java.util.ArrayList;
+import java.util.List;
+import java.util.Map;
 import java.util.Set;
+import java.util.TreeMap;
 import java.util.TreeSet;
 import java.util.regex.Matcher;
 import java.util.regex.Pattern;
@@ -17,6 +21,10 @@ public final class LanguageTest {
     private static final String[] BANNED = {"\\bthrow\\b", "\\btry\\b", "\\bcatch\\b", "\\bsynchronized\\b",
         "\\bassert\\b", "\\bimport\\b", "\\bpackage\\b", "->", "::", "Exact\\(", "\\bprotected\\b", "\\bObject\\b",
         "\\bhashCode\\b", "\\btoString\\b", "\\bThread\\b", "System\\.(?!arraycopy)", "static\\s*\\{", "@"};
+    private static final Set<String> OWN = Set.of("PulpitRoads", "Row", "Tape", "Road", "Acts", "Bodies");
+    private static final Set<String> LIBRARY = Set.of("Integer.bitCount", "Math.min", "System.arraycopy");
+    private static final Set<Class<?>> PLAIN = Set.of(int.class, long.class, boolean.class, void.class, int[].class);
+    private static final int DEEPEST = 8;
     private static final Check CHECK = new Check();
 
     public static void main(String[] args) throws Exception {
@@ -83,12 +91,19 @@ public final class LanguageTest {
         for (Field f : c.getDeclaredFields()) {
             boolean isStatic = Modifier.isStatic(f.getModifiers());
             isTrue(f + " is final, if static", !isStatic || Modifier.isFinal(f.getModifiers()));
+            isTrue(f + " is of a type that may be", isPlain(f.getType()) && (!isStatic || PLAIN.contains(f.getType())));
             fields += isStatic ? 0 : 1;
         }
         isTrue(c + " has some twenty fields", fields <= 20);
         for (Method m : c.getDeclaredMethods()) {
             isTrue(m + " has seven parameters at most", m.getParameterCount() <= 7);
+            isTrue(m + " answers a type that may be", isPlain(m.getReturnType()));
         }
+    }
+
+    private static boolean isPlain(Class<?> type) {
+        Class<?> one = type.isArray() ? type.getComponentType() : type;
+        return PLAIN.contains(type) || OWN.contains(one.getSimpleName());
     }
 
     private static void text(String source) {
@@ -97,22 +112,73 @@ public final class LanguageTest {
             Matcher m = Pattern.compile(banned).matcher(code);
             isTrue("nothing like " + banned, !m.find());
         }
-        isTrue("no while without a bound", !code.contains("while (true)") && !code.contains("for (;;)"));
+        isTrue("no text", !code.contains("\""));
         isTrue("signs 1 to 127", source.chars().allMatch(c -> c > 0 && c < 128));
+        namesAreKnown(code);
+        loopsAreCounted(code);
+        objectsAreMadeOnce(code);
         methodsAreShort(code.split("\n"));
+    }
+
+    private static void namesAreKnown(String code) {
+        Matcher name = Pattern.compile("\\b[A-Z]\\w*[a-z]\\w*(\\.\\w+)?").matcher(code);
+        while (name.find()) {
+            isTrue(name.group() + " is its own or of the library", OWN.contains(name.group()) || LIBRARY.contains(name.group()));
+        }
+    }
+
+    private static void loopsAreCounted(String code) {
+        isTrue("no loop without a counter", !code.matches("(?s).*\\b(while|do)\\b.*"));
+        Matcher loop = Pattern.compile("\\bfor \\((.*)\\) \\{").matcher(code);
+        Pattern counted = Pattern.compile("int (\\w+) = [^;]*; \\1 (<|<=|>) [^;]*; \\1(\\+\\+|--)");
+        while (loop.find()) {
+            isTrue(loop.group() + " is counted", counted.matcher(loop.group(1)).matches());
+        }
+    }
+
+    /** As fields, or in the one constructor: no call makes an object, so no run can make too many. */
+    private static void objectsAreMadeOnce(String code) {
+        for (String line : code.split("\n")) {
+            if (line.matches(".*\\bnew\\b.*")) {
+                isTrue(line.trim() + " is made once",
+                    line.matches(" +private final .* = new .*;|            (rows\\[r\\]|images\\[k\\]) = new \\w+\\(\\);"));
+            }
+        }
     }
 
     /** A method ends with a brace as far in as the line that it begins with. */
     private static void methodsAreShort(String[] lines) {
+        Map<String, String> bodies = new TreeMap<>();
         for (int i = 0; i < lines.length; i++) {
-            Matcher begin = Pattern.compile("( +)(public|private)[^=;]*\\(.*\\{").matcher(lines[i]);
+            Matcher begin = Pattern.compile("( +)(public|private)[^=;(]* (\\w+)\\(.*\\{").matcher(lines[i]);
             if (begin.matches()) {
                 int end = i;
                 while (end < lines.length && !lines[end].equals(begin.group(1) + "}")) {
                     end++;
                 }
                 isTrue("a short method: " + lines[i].trim(), end - i <= 60);
+                String body = String.join("\n", List.of(lines).subList(i + 1, end));
+                bodies.merge(begin.group(3), body, String::concat);
             }
         }
+        isTrue("methods are found: " + bodies.size(), bodies.size() > 36);
+        for (String method : bodies.keySet()) {
+            int deep = deepest(method, bodies, new ArrayList<>());
+            isTrue(method + " calls " + deep + " deep", deep <= DEEPEST);
+        }
+    }
+
+    /** Methods of one name count as one, and one that is open already is not gone into again. */
+    private static int deepest(String method, Map<String, String> bodies, List<String> open) {
+        open.add(method);
+        int deep = 0;
+        Matcher call = Pattern.compile("\\b(\\w+)\\(").matcher(bodies.get(method));
+        while (call.find()) {
+            if (bodies.containsKey(call.group(1)) && !open.contains(call.group(1))) {
+                deep = Math.max(deep, deepest(call.group(1), bodies, open));
+            }
+        }
+        open.remove(method);
+        return deep + 1;
     }
 }

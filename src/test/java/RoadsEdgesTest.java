@@ -174,6 +174,33 @@ public final class RoadsEdgesTest {
             count(3) = 9999
             hours(1) = FULL
             """);
+        EDGES.edge("Promise 9", "FULL: beyond HOUR 9999", """
+            # a box that says a WORD an HOUR, of twelve, on five STRETCHES: it is on 4 then, at WORD 3
+            read p12,0;r1;r1;r1;r1;r1;b0,0; = 1
+            hours(24) = 0 x2
+            hours(24) = 31 x414
+            hours(15) = 31
+            pulpit(0, 0..1) = 4 3
+            forget(0..4) = 12
+            whole(0..4) = 57 58 59 60 56
+            first(0..1) = 4 56
+            left(0|11|12) = 4095 4 0
+            axles(4, 3, 4, 0..1) = 3 5
+            row(0, 0, 2) = 2
+            set(0, 1, 1) = 1
+            fits(0, 0, 0, 2, 0..3) = 58 16 4095 4095
+            hours(1) = FULL
+            """);
+        EDGES.edge("Promise 9", "FULL: beyond HOUR 9999", """
+            # a box and one that goes back, on five STRETCHES: from next to one another they are on one in three HOURS
+            read p4,0;r0;r0;r0;r0;r0;b0,0;k2,0; = 2
+            hours(24) = 31 x416
+            hours(15) = 31
+            pulpit(0..1, 0) = 4 1
+            put(0, 0) = 4
+            meet(0, 1) = 3
+            hours(1) = FULL
+            """);
     }
 
     private static void put() {

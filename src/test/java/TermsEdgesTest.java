@@ -10,6 +10,7 @@ public final class TermsEdgesTest {
         passes();
         hours();
         acts();
+        gates();
         EDGES.end("TermsEdgesTest");
     }
 
@@ -18,7 +19,7 @@ public final class TermsEdgesTest {
     }
 
     private static void numbers() {
-        edge("An object is used for at most 512 calls after it has been made", """
+        EDGES.edge("What it is", "An object is used for at most 512 calls after it has been made", """
             read ROUND = 1
             hours(1) = 0
             ahead(0, 60, 0) = 1 x490
@@ -105,7 +106,7 @@ public final class TermsEdgesTest {
     }
 
     private static void whichRefusalComesFirst() {
-        edge("Refusals are answers, the first of these that fits, but as told: BAD [..], STATE", """
+        edge("Refusals are answers, the first of these that fits, but as told: BAD [..], STATE (as told)", """
             image(-1|2) = BAD
             image(0|1) = STATE
             restore(-1|2) = BAD
@@ -116,7 +117,7 @@ public final class TermsEdgesTest {
             put(0, 3) = BAD
             put(0, 0) = STATE
             """);
-        edge("Refusals are answers, the first of these that fits, but as told: BAD [..], FULL", """
+        edge("Refusals are answers, the first of these that fits, but as told: BAD [..], FULL (as told)", """
             feed(112) = 1
             feed(112) = 2
             feed pppppppppppppppppppppppppppppppppppppppppppppppppppppppppppppppppppppppppppppppppppppppp = 90
@@ -146,7 +147,8 @@ public final class TermsEdgesTest {
             as(0, 6) = BAD
             as(0, 4) = KIND
             """);
-        edge("STATE: no ROAD (ahead of BAD)", """
+        edge("Refusals are answers, the first of these that fits, but as told", """
+            # told: no ROAD is ahead of BAD
             hours(!1..24|0|1) = STATE
             first(!0..1|0) = STATE
             left(!0..60|0) = STATE
@@ -289,7 +291,8 @@ public final class TermsEdgesTest {
             hours(1) = 0
             pulpit(0..1, 0) = 8 0
             """);
-        edge("it says as many WORDS as the GRADE of its STRETCH lets: 3 flat, 1 down, 4 up; the GATE there HEARD each", """
+        edge("A PULPIT PASSES: it says as many WORDS as the GRADE of its STRETCH lets: 3 flat, 1 down, 4 up;"
+            + " the GATE there HEARD each", """
             read p16,0;r0;r1;r2;b0,0;b1,0;b2,0; = 3
             pulpit(0..2, 3) = 7 1 15
             hours(1) = 0
@@ -370,7 +373,8 @@ public final class TermsEdgesTest {
     }
 
     private static void hours() {
-        edge("PULPIT by PULPIT PASSES, but those in COUNCIL: on whose STRETCH another one of a lesser number was", """
+        edge("AN HOUR: PULPIT by PULPIT PASSES, but those in COUNCIL:"
+            + " on whose STRETCH another one of a lesser number was", """
             read p16,0;r1;r1;r1;b2,0;b2,1;b2,2;b2,3;b2,4; = 5
             pulpit(0..4, 2) = 0 1 1 1 1
             hours(1) = 0
@@ -487,7 +491,7 @@ public final class TermsEdgesTest {
             pulpit(0, 1) = 3
             stretch(0..2, 1) = 7 0 0
             """);
-        edge("an HOUR; a PULPIT is put on another STRETCH; its WORD is another; a GATE forgets all it HEARD", """
+        edge("ACTS [..] an HOUR; a PULPIT is put on another STRETCH; its WORD is another; a GATE forgets all it HEARD", """
             read ROUND = 1
             count(6) = 0
             hours(1) = 0
@@ -531,6 +535,29 @@ public final class TermsEdgesTest {
             pulpit(0, 0) = 0
             pulpit(0, 1) = 0
             undo() = STATE
+            """);
+    }
+
+    private static void gates() {
+        edge("(GATES by their STRETCHES)", """
+            read p4,0;r0;r0;r0;r0;r0;r0;r0;r1;r2;b8,1; = 1
+            hours(1) = 256
+            stretch(7..8, 1) = 0 15
+            heard(7..8, 0) = 0 15
+            whole(8) = 0
+            first(0) = 8
+            piece(1) = 256
+            axles(7..8, 0, 10, 0) = 0 1
+            best(0, 7..8, 1, 1) = 1 4
+            count(8) = 256
+            forget(7) = STATE
+            forget(8) = 4
+            stretch(8, 1) = 0
+            forget(9) = BAD
+            heard(9, 0) = BAD
+            whole(9) = BAD
+            axles(9, 0, 10, 0) = BAD
+            best(0, 9, 1, 1) = BAD
             """);
     }
 }

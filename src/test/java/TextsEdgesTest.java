@@ -19,7 +19,7 @@ public final class TextsEdgesTest {
     }
 
     private static void tape() {
-        edge("THE TAPE has at most 90 bytes, that come one by one", """
+        edge("TEXTS: THE TAPE has at most 90 bytes, that come one by one", """
             count(7) = 0
             feed LONGEST = 78
             feed b0,0;k1,1;y = 89
