@@ -1,7 +1,5 @@
 import java.lang.reflect.Method;
-import java.lang.reflect.Modifier;
 import java.util.ArrayList;
-import java.util.Comparator;
 import java.util.List;
 import java.util.Set;
 
@@ -13,14 +11,13 @@ import java.util.Set;
 public final class GridTest {
     private static final int MIN = Integer.MIN_VALUE, MAX = Integer.MAX_VALUE;
     /** Numbers for calls with that many parameters: fewer where there are more combinations. */
-    private static final int[][] NUMBERS = {
-        {},
-        {MIN, -1, 0, 1, 2, 3, 4, 5, 7, 8, 9, 10, 15, 16, 17, 24, 25, 40, 41, 60, 61, 112, 255, 256, 1000000, MAX},
-        {MIN, -1, 0, 1, 2, 3, 4, 5, 6, 7, 8, 9, 15, 16, 60, 61, MAX},
-        {MIN, -1, 0, 1, 2, 3, 8, 9, 40, 41, 60, 61, 999999, 1000000, MAX},
-        {MIN, -1, 0, 1, 4, 5, 8, 9, 10, 11, 15, 16, 30, 31, MAX},
-        {MIN, -1, 0, 1, 3, 4, 7, 8, 12, 13, MAX},
-    };
+    private static final List<List<Integer>> NUMBERS = List.of(
+        List.of(),
+        List.of(MIN, -1, 0, 1, 2, 3, 4, 5, 7, 8, 9, 10, 15, 16, 17, 24, 25, 40, 41, 60, 61, 112, 255, 256, 1000000, MAX),
+        List.of(MIN, -1, 0, 1, 2, 3, 4, 5, 6, 7, 8, 9, 15, 16, 60, 61, MAX),
+        List.of(MIN, -1, 0, 1, 2, 3, 8, 9, 40, 41, 60, 61, 999999, 1000000, MAX),
+        List.of(MIN, -1, 0, 1, 4, 5, 8, 9, 10, 11, 15, 16, 30, 31, MAX),
+        List.of(MIN, -1, 0, 1, 3, 4, 7, 8, 12, 13, MAX));
     private static final Set<String> CHANGING = Set.of("row", "set", "drop", "feed", "road", "hours", "put", "skip",
         "forget", "undo", "image", "restore", "as", "ask");
     private static final String ROWS = """
@@ -54,7 +51,7 @@ public final class GridTest {
         List<EdgeLine.Call> looks = callsOf(String.join("\n", LOOKS));
         for (String state : STATES) {
             List<EdgeLine.Call> before = callsOf(state);
-            for (Method method : face()) {
+            for (Method method : Seen.face()) {
                 if (CHANGING.contains(method.getName())) {
                     eachOnAnObjectOfItsOwn(before, callsWithAll(method), looks);
                 } else {
@@ -63,17 +60,6 @@ public final class GridTest {
             }
         }
         CHECK.end("GridTest");
-    }
-
-    private static List<Method> face() {
-        List<Method> face = new ArrayList<>();
-        for (Method method : PulpitRoads.class.getDeclaredMethods()) {
-            if (Modifier.isPublic(method.getModifiers())) {
-                face.add(method);
-            }
-        }
-        face.sort(Comparator.comparing(Method::getName));
-        return face;
     }
 
     private static List<EdgeLine.Call> callsOf(String lines) {
@@ -86,18 +72,9 @@ public final class GridTest {
 
     private static List<EdgeLine.Call> callsWithAll(Method method) {
         int many = method.getParameterCount();
-        List<List<Integer>> rows = new ArrayList<>();
-        rows.add(List.of());
+        List<List<Integer>> rows = List.of(List.of());
         for (int i = 0; i < many; i++) {
-            List<List<Integer>> longer = new ArrayList<>();
-            for (List<Integer> row : rows) {
-                for (int number : NUMBERS[many]) {
-                    List<Integer> one = new ArrayList<>(row);
-                    one.add(number);
-                    longer.add(one);
-                }
-            }
-            rows = longer;
+            rows = EdgeLine.eachWith(rows, NUMBERS.get(many));
         }
         List<EdgeLine.Call> calls = new ArrayList<>();
         for (List<Integer> row : rows) {

@@ -1,7 +1,5 @@
 import java.lang.reflect.Method;
-import java.util.ArrayList;
 import java.util.Arrays;
-import java.util.Comparator;
 import java.util.List;
 import java.util.Random;
 
@@ -12,13 +10,7 @@ public final class ModelTest {
     private static final Check CHECK = new Check();
 
     public static void main(String[] args) throws Exception {
-        List<Method> methods = new ArrayList<>();
-        for (Method m : PulpitRoads.class.getDeclaredMethods()) {
-            if (java.lang.reflect.Modifier.isPublic(m.getModifiers())) {
-                methods.add(m);
-            }
-        }
-        methods.sort(Comparator.comparing(Method::getName));
+        List<Method> methods = Seen.face();
         for (int run = 0; run < RUNS; run++) {
             new Run(run, methods).go();
         }

@@ -1,6 +1,5 @@
 import java.io.IOException;
 import java.lang.reflect.Method;
-import java.lang.reflect.Modifier;
 import java.nio.file.Files;
 import java.nio.file.Path;
 import java.util.ArrayList;
@@ -60,10 +59,8 @@ public final class ReadmeTest {
     private static void calls(String text) {
         Set<String> told = firstColumn(text, "(\\w+)\\(([\\w, ]*)\\)");
         Set<String> there = new TreeSet<>();
-        for (Method method : PulpitRoads.class.getDeclaredMethods()) {
-            if (Modifier.isPublic(method.getModifiers())) {
-                there.add(method.getName() + method.getParameterCount());
-            }
+        for (Method method : Seen.face()) {
+            there.add(method.getName() + method.getParameterCount());
         }
         Set<String> counted = new TreeSet<>();
         for (String call : told) {

@@ -71,6 +71,11 @@ final class Seen {
         }
     }
 
+    /** The public methods, by their names. */
+    static List<Method> face() {
+        return new ArrayList<>(FACE.values());
+    }
+
     private final List<EdgeLine.Call> calls;
     private final Map<String, List<List<Integer>>> parts = new LinkedHashMap<>();
 
