@@ -4,6 +4,9 @@ final class Check {
     static final int NULL = -1000011, PLACE = -1000012, KIND = -1000013, SIZE = -1000014, STORE = -1000015;
     static final int[] FAR = {Integer.MIN_VALUE, Integer.MIN_VALUE + 1, -1, Integer.MAX_VALUE - 1, Integer.MAX_VALUE};
 
+    /** Wrong answers beyond these are counted, but not told. */
+    private static final int MOST_TOLD = 200;
+
     private int checked;
     private int wrong;
 
@@ -11,6 +14,9 @@ final class Check {
         checked++;
         if (got != want) {
             wrong++;
+            if (wrong > MOST_TOLD) {
+                return;
+            }
             System.out.println(call + " answered " + got + ", due is " + want);
         }
     }

@@ -103,7 +103,7 @@ final class EdgeLine {
         return calls;
     }
 
-    static List<List<Integer>> eachWith(List<List<Integer>> rows, List<Integer> numbers) {
+    private static List<List<Integer>> eachWith(List<List<Integer>> rows, List<Integer> numbers) {
         List<List<Integer>> longer = new ArrayList<>();
         for (List<Integer> row : rows) {
             for (int number : numbers) {

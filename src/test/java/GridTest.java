@@ -15,9 +15,9 @@ public final class GridTest {
         List.of(),
         List.of(MIN, -1, 0, 1, 2, 3, 4, 5, 7, 8, 9, 10, 15, 16, 17, 24, 25, 40, 41, 60, 61, 112, 255, 256, 1000000, MAX),
         List.of(MIN, -1, 0, 1, 2, 3, 4, 5, 6, 7, 8, 9, 15, 16, 60, 61, MAX),
-        List.of(MIN, -1, 0, 1, 2, 3, 8, 9, 40, 41, 60, 61, 999999, 1000000, MAX),
-        List.of(MIN, -1, 0, 1, 4, 5, 8, 9, 10, 11, 15, 16, 30, 31, MAX),
-        List.of(MIN, -1, 0, 1, 3, 4, 7, 8, 12, 13, MAX));
+        List.of(MIN, -1, 0, 1, 2, 3, 4, 5, 7, 8, 9, 40, 41, 60, 61, 999999, 1000000, MAX),
+        List.of(MIN, -1, 0, 1, 2, 4, 5, 8, 9, 10, 11, 15, 16, 30, 31, MAX),
+        List.of(MIN, -1, 0, 1, 3, 4, 5, 7, 8, 12, 13, 40, 41, MAX));
     private static final Set<String> CHANGING = Set.of("row", "set", "drop", "feed", "road", "hours", "put", "skip",
         "forget", "undo", "image", "restore", "as", "ask");
     private static final String ROWS = """
@@ -53,9 +53,9 @@ public final class GridTest {
             List<EdgeLine.Call> before = callsOf(state);
             for (Method method : Seen.face()) {
                 if (CHANGING.contains(method.getName())) {
-                    eachOnAnObjectOfItsOwn(before, callsWithAll(method), looks);
+                    eachOnAnObjectOfItsOwn(before, method, looks);
                 } else {
-                    eachOnTheSame(before, callsWithAll(method));
+                    eachOnTheSame(before, method);
                 }
             }
         }
@@ -70,39 +70,48 @@ public final class GridTest {
         return calls;
     }
 
-    private static List<EdgeLine.Call> callsWithAll(Method method) {
-        int many = method.getParameterCount();
-        List<List<Integer>> rows = List.of(List.of());
-        for (int i = 0; i < many; i++) {
-            rows = EdgeLine.eachWith(rows, NUMBERS.get(many));
+    private static int combinations(Method method) {
+        int many = 1;
+        for (int i = 0; i < method.getParameterCount(); i++) {
+            many *= NUMBERS.get(method.getParameterCount()).size();
         }
-        List<EdgeLine.Call> calls = new ArrayList<>();
-        for (List<Integer> row : rows) {
-            calls.add(new EdgeLine.Call(method.getName(), row));
-        }
-        return calls;
+        return many;
     }
 
-    private static void eachOnAnObjectOfItsOwn(List<EdgeLine.Call> before, List<EdgeLine.Call> calls,
-            List<EdgeLine.Call> looks) {
-        for (EdgeLine.Call call : calls) {
+    /** The combination's number tells which of the numbers each parameter has, as figures do. */
+    private static EdgeLine.Call callWith(Method method, int combination) {
+        List<Integer> numbers = NUMBERS.get(method.getParameterCount());
+        List<Integer> args = new ArrayList<>();
+        int rest = combination;
+        for (int i = 0; i < method.getParameterCount(); i++) {
+            args.add(numbers.get(rest % numbers.size()));
+            rest /= numbers.size();
+        }
+        return new EdgeLine.Call(method.getName(), args);
+    }
+
+    private static void eachOnAnObjectOfItsOwn(List<EdgeLine.Call> before, Method method, List<EdgeLine.Call> looks) {
+        for (int k = 0; k < combinations(method); k++) {
+            EdgeLine.Call call = callWith(method, k);
             Pair pair = new Pair(before);
             pair.due(call, "");
+            String behind = " behind " + call;
             for (EdgeLine.Call look : looks) {
-                pair.due(look, " behind " + call);
+                pair.due(look, behind);
             }
         }
     }
 
-    private static void eachOnTheSame(List<EdgeLine.Call> before, List<EdgeLine.Call> calls) {
+    private static void eachOnTheSame(List<EdgeLine.Call> before, Method method) {
         Pair pair = new Pair(before);
         EdgeLine.Call status = new EdgeLine.Call("status", List.of());
-        for (EdgeLine.Call call : calls) {
+        for (int k = 0; k < combinations(method); k++) {
+            EdgeLine.Call call = callWith(method, k);
             if (pair.left < 2) {
                 pair = new Pair(before);
             }
             pair.due(call, "");
-            pair.due(status, " behind " + call.name());
+            pair.due(status, " behind a call");
         }
     }
 
